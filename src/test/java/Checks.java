@@ -29,7 +29,8 @@ final class Checks {
         dueThrow(what, NoSuchElementException.class, call);
     }
 
-    private static Object outcome(Call call) {
+    /** The answer, or the name of the exception that is thrown. */
+    static Object outcome(Call call) {
         try {
             return call.run();
         } catch (RuntimeException e) {
