@@ -292,7 +292,7 @@ public final class TextForge {
         }
     }
 
-    /** One argument; only one that is a text has a text that is not null. */
+    /** One argument; its content is null unless it is a text. */
     private static final class Argument {
         static final int SIGNED = 0;
         static final int UNSIGNED = 1;
@@ -427,7 +427,7 @@ public final class TextForge {
             places[count] = place;
         }
 
-        // Rows of full length from the start would cost more than all that 512 calls can feed.
+        // Few objects ever decode a long text, so the rows become long only in those that do.
         private void widenTo(int most) {
             if (most > values.length) {
                 values = new int[most];
@@ -460,7 +460,7 @@ public final class TextForge {
             return code < 0x10000 ? 3 : 4;
         }
 
-        /** How many bytes a place takes at which codeAt has found this. */
+        /** How many bytes there are to a place at which codeAt has found this. */
         static int bytesAt(int found) {
             return found == NO_CODE ? 1 : bytesOf(found);
         }
