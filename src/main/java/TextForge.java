@@ -151,7 +151,7 @@ public final class TextForge {
         if (what == 0) {
             return codes.valueOf(k);
         }
-        return what == 1 ? codes.placeOf(k) : codes.placeOf(k + 1) - codes.placeOf(k);
+        return what == 1 ? codes.placeOf(k) : codes.bytesOf(k);
     }
 
     public int size() {
@@ -396,11 +396,11 @@ public final class TextForge {
         }
     }
 
-    /** The codes of a text, and where each begins and ends. */
+    /** The codes of a text, and where each begins. */
     private static final class Codes {
-        private int[] values = new int[0];
-        // One more than the values, for the place where the last one ends.
-        private int[] places = new int[1];
+        // What codeAt found, since that tells a code that stands there from one that stands in.
+        private int[] found = new int[0];
+        private int[] places = new int[0];
         private int count = 0;
 
         int count() {
@@ -408,30 +408,38 @@ public final class TextForge {
         }
 
         int valueOf(int k) {
-            return k >= 0 && k < values.length ? values[k] : 0;
+            return Utf8.codeOf(foundAt(k));
         }
 
         int placeOf(int k) {
             return k >= 0 && k < places.length ? places[k] : 0;
         }
 
+        int bytesOf(int k) {
+            return Utf8.bytesAt(foundAt(k));
+        }
+
         void take(Bytes text) {
             widenTo(text.length());
             int place = 0;
-            for (count = 0; count < values.length && place < text.length(); count++) {
-                int found = Utf8.codeAt(text, place);
-                values[count] = Utf8.codeOf(found);
+            count = 0;
+            while (place < text.length() && count < found.length && count < places.length) {
+                found[count] = Utf8.codeAt(text, place);
                 places[count] = place;
-                place += Utf8.bytesAt(found);
+                place += bytesOf(count);
+                count++;
             }
-            places[count] = place;
+        }
+
+        private int foundAt(int k) {
+            return k >= 0 && k < found.length ? found[k] : Utf8.NO_CODE;
         }
 
         // Few objects ever decode a long text, so the rows become long only in those that do.
         private void widenTo(int most) {
-            if (most > values.length) {
-                values = new int[most];
-                places = new int[most + 1];
+            if (most > found.length) {
+                found = new int[most];
+                places = new int[most];
             }
         }
     }
@@ -564,24 +572,20 @@ public final class TextForge {
 
         void setDecimal(long magnitude) {
             long rest = magnitude;
-            count = 0;
-            do {
+            for (count = 0; count < digits.length && (count == 0 || rest != 0); count++) {
                 // Halved first, the number is one that division with sign takes rightly.
                 long tenth = (rest >>> 1) / 5;
                 digits[count] = (byte) ('0' + (rest - tenth * 10));
-                count++;
                 rest = tenth;
-            } while (rest != 0 && count < digits.length);
+            }
         }
 
         void setByBits(long magnitude, int bitsOfDigit, int ten) {
             long rest = magnitude;
-            count = 0;
-            do {
+            for (count = 0; count < digits.length && (count == 0 || rest != 0); count++) {
                 digits[count] = (byte) digit((int) rest & (1 << bitsOfDigit) - 1, ten);
-                count++;
                 rest >>>= bitsOfDigit;
-            } while (rest != 0 && count < digits.length);
+            }
         }
 
         void putTo(Bytes to) {

@@ -4,12 +4,17 @@ final class ArgumentsTest {
     private static final Class<IllegalArgumentException> ARGUMENT = IllegalArgumentException.class;
 
     public static void main(String[] args) {
+        Checks.promise(4, "number and its likes");
         eachIsOneMore();
         numbers();
+        Checks.promise(7, "thing");
         things();
         noSuchSort();
+        Checks.promise(4, "number and its likes");
         sixteenAndOneMore();
+        Checks.promise(6, "text");
         textsAreKeptApart();
+        Checks.promise(8, "clear");
         clearDropsThem();
         Checks.finish("ArgumentsTest");
     }
@@ -87,7 +92,6 @@ final class ArgumentsTest {
         Checks.fed(forge, "second").text();
         Checks.fed(forge, "third, not given");
         dueJoin("texts", forge, "first text second");
-        Checks.fed(new TextForge(), "x");
         TextForge large = new TextForge();
         Checks.fed(large, Checks.times('k', 4096));
         Checks.due("text of 4096 bytes", large.text(), 1);

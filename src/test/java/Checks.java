@@ -1,6 +1,10 @@
+import java.io.ByteArrayOutputStream;
+import java.nio.ByteBuffer;
+import java.nio.IntBuffer;
 import java.nio.charset.StandardCharsets;
 import java.util.Arrays;
 import java.util.NoSuchElementException;
+import java.util.stream.IntStream;
 
 /** What the tests share: comparing, counting what is wrong, feeding and reading texts. */
 final class Checks {
@@ -9,16 +13,33 @@ final class Checks {
         Object run();
     }
 
+    // A long result is looked at here and there alone: nothing is promised of an object behind its
+    // 512th call, and feeding 4096 bytes takes 206 calls.
+    private static final int WHOLE = 128;
+    private static final int AT_EACH_END = 40;
+    private static final int BETWEEN = 61;
+
     private static int wrong = 0;
+    private static String promise = "";
 
     private Checks() {
+    }
+
+    /** Says to which promise the checks from here on belong, and which of its cases they look at. */
+    static void promise(int number, String words) {
+        promise = "promise " + number + " (" + words + "): ";
     }
 
     static void due(String what, Object got, Object want) {
         if (!want.equals(got)) {
             wrong++;
-            System.out.println(what + ": answered " + got + ", due is " + want);
+            System.out.println(promise + inShort(what) + ": answered " + got + ", due is " + want);
         }
+    }
+
+    private static String inShort(String what) {
+        int length = what.length();
+        return length <= WHOLE ? what : what.substring(0, AT_EACH_END) + " .. " + what.substring(length - AT_EACH_END);
     }
 
     static void dueThrow(String what, Class<? extends RuntimeException> want, Call call) {
@@ -41,7 +62,13 @@ final class Checks {
     /** The result must have just these bytes, by size() and by byteOf(). */
     static void dueResult(String what, TextForge forge, byte[] want) {
         due(what + ", size()", forge.size(), want.length);
-        due(what + ", bytes", shown(resultOf(forge)), shown(want));
+        StringBuilder got = new StringBuilder();
+        StringBuilder wanted = new StringBuilder();
+        for (int i : placesToLookAt(want.length)) {
+            got.append(shown(outcome(() -> forge.byteOf(i))));
+            wanted.append(shown(want[i] & 255));
+        }
+        due(what + ", bytes", got.toString(), wanted.toString());
         dueNoElement(what + ", byteOf(size)", () -> forge.byteOf(want.length));
     }
 
@@ -49,29 +76,31 @@ final class Checks {
         dueResult(what, forge, bytes(want));
     }
 
-    static byte[] resultOf(TextForge forge) {
-        byte[] result = new byte[forge.size()];
-        for (int i = 0; i < result.length; i++) {
-            int value = forge.byteOf(i);
-            if (value < 0 || value > 255) {
-                due("byteOf(" + i + ") within 0 .. 255", value, "a byte");
-            }
-            result[i] = (byte) value;
-        }
-        return result;
+    private static int[] placesToLookAt(int length) {
+        return IntStream.range(0, length)
+                .filter(i -> length <= WHOLE || i < AT_EACH_END || i >= length - AT_EACH_END || i % BETWEEN == 0)
+                .toArray();
     }
 
-    private static String shown(byte[] row) {
-        StringBuilder text = new StringBuilder();
-        for (byte value : row) {
-            int b = value & 255;
-            if (b >= 32 && b < 127) {
-                text.append((char) b);
-            } else {
-                text.append(String.format("<%02x>", b));
-            }
-        }
-        return text.toString();
+    private static String shown(Object value) {
+        boolean isLetter = value instanceof Integer b && b >= 32 && b < 127;
+        return isLetter ? Character.toString((Integer) value) : "<" + value + ">";
+    }
+
+    /** The format, with these arguments, must make just these bytes. */
+    static void dueFormat(byte[] format, byte[] want, Object... arguments) {
+        TextForge forge = fed(with(arguments), format);
+        String what = "format " + new String(format, StandardCharsets.ISO_8859_1);
+        due(what, forge.format(), want.length);
+        dueResult(what, forge, want);
+    }
+
+    static void dueFormat(String format, byte[] want, Object... arguments) {
+        dueFormat(bytes(format), want, arguments);
+    }
+
+    static void dueFormat(String format, String want, Object... arguments) {
+        dueFormat(bytes(format), bytes(want), arguments);
     }
 
     static byte[] bytes(String text) {
@@ -93,7 +122,7 @@ final class Checks {
     }
 
     static byte[] joined(byte[]... parts) {
-        java.io.ByteArrayOutputStream all = new java.io.ByteArrayOutputStream();
+        ByteArrayOutputStream all = new ByteArrayOutputStream();
         for (byte[] part : parts) {
             all.writeBytes(part);
         }
@@ -118,12 +147,21 @@ final class Checks {
     }
 
     private static void feedTwenty(TextForge forge, byte[] twenty) {
-        java.nio.IntBuffer ints = java.nio.ByteBuffer.wrap(twenty).asIntBuffer();
+        IntBuffer ints = ByteBuffer.wrap(twenty).asIntBuffer();
         due("feed", forge.feed(ints.get(0), ints.get(1), ints.get(2), ints.get(3), ints.get(4)), true);
     }
 
-    /** Gives one argument: Long with sign, Unsigned, Boolean, byte[], String or Thing. */
-    static void give(TextForge forge, Object argument) {
+    /** A new object with these arguments. */
+    static TextForge with(Object... arguments) {
+        TextForge forge = new TextForge();
+        for (Object argument : arguments) {
+            give(forge, argument);
+        }
+        return forge;
+    }
+
+    /** Gives one argument: Long or Integer with sign, Unsigned, Boolean, byte[], String or Thing. */
+    private static void give(TextForge forge, Object argument) {
         if (argument instanceof Long v) {
             forge.number(v, true);
         } else if (argument instanceof Integer v) {

@@ -2,16 +2,22 @@ import java.nio.charset.StandardCharsets;
 
 /** Promises 14 to 16: encode, decode, code. */
 final class CodesTest {
+    // Six calls or fewer for each code, and an object is used for 512 at most.
+    private static final int OF_ONE_OBJECT = 64;
+
     public static void main(String[] args) {
+        Checks.promise(14, "encode");
         encodesEveryCode();
         encodesWhatIsNone();
+        Checks.promise(15, "decode");
         decodes();
         decodesPlacesWithoutCode();
         decodesEveryCode();
         decodesEveryPair();
+        longTexts();
+        Checks.promise(16, "code");
         noSuchCode();
         latestDecoding();
-        longTexts();
         Checks.finish("CodesTest");
     }
 
@@ -26,6 +32,7 @@ final class CodesTest {
     private static void encodesEveryCode() {
         TextForge forge = new TextForge();
         for (int code = 0; code <= 1114111; code++) {
+            forge = code % OF_ONE_OBJECT == 0 ? new TextForge() : forge;
             byte[] want = utf8(isCode(code) ? code : 65533);
             boolean right = forge.encode(code) == want.length && forge.size() == want.length;
             for (int i = 0; right && i < want.length; i++) {
@@ -46,7 +53,7 @@ final class CodesTest {
     }
 
     /** The codes must be these: code, place, bytes, and so on. */
-    private static void due(byte[] text, int... want) {
+    static void due(byte[] text, int... want) {
         TextForge forge = Checks.fed(new TextForge(), text);
         dueCodes(java.util.Arrays.toString(text), forge, forge.decode(), want);
     }
@@ -70,7 +77,8 @@ final class CodesTest {
         due(Checks.bytes(0xED, 0x9F, 0xBF, 0xEE, 0x80, 0x80), 55295, 0, 3, 57344, 3, 3);
     }
 
-    private static void dueNone(int... text) {
+    /** At no place of the text a code of more than one byte begins. */
+    static void dueNone(int... text) {
         int[] want = new int[3 * text.length];
         for (int i = 0; i < text.length; i++) {
             want[3 * i] = text[i] < 128 ? text[i] : 65533;
@@ -111,8 +119,11 @@ final class CodesTest {
 
     private static void decodesEveryCode() {
         TextForge forge = new TextForge();
+        int tried = 0;
         for (int code = 0; code <= 1114111; code += code < 66000 ? 1 : 97) {
             if (isCode(code)) {
+                forge = tried % OF_ONE_OBJECT == 0 ? new TextForge() : forge;
+                tried++;
                 byte[] text = utf8(code);
                 Checks.fed(forge, text);
                 boolean right = forge.decode() == 1 && forge.code(0, 0) == code
@@ -125,6 +136,7 @@ final class CodesTest {
     private static void decodesEveryPair() {
         TextForge forge = new TextForge();
         for (int pair = 0; pair < 65536; pair++) {
+            forge = pair % OF_ONE_OBJECT == 0 ? new TextForge() : forge;
             int first = pair >> 8;
             int second = pair & 255;
             boolean isOne = first >= 0xC2 && first <= 0xDF && second >= 0x80 && second <= 0xBF;

@@ -1,9 +1,12 @@
 /** Promises 1 to 3: a new object, feed, end. */
 final class FeedTest {
     public static void main(String[] args) {
+        Checks.promise(1, "a new object");
         newObject();
+        Checks.promise(2, "feed");
         feedAppendsHighestFirst();
         feedRefusesMoreThanMost();
+        Checks.promise(3, "end");
         endCuts();
         endRefuses();
         textIsUsedUp();

@@ -1,26 +1,22 @@
 /** Promises 10, 11, 17 and 18: join, quote, size, byteOf. */
 final class JoinAndQuoteTest {
     public static void main(String[] args) {
+        Checks.promise(10, "join");
         joins();
         joinCuts();
+        Checks.promise(11, "quote");
         quotes();
         quoteOfPlacesWithoutCode();
         quoteCuts();
+        Checks.promise(18, "byteOf");
         bytesOfTheResult();
+        Checks.promise(17, "size");
         resultStays();
         Checks.finish("JoinAndQuoteTest");
     }
 
-    private static TextForge with(Object... arguments) {
-        TextForge forge = new TextForge();
-        for (Object argument : arguments) {
-            Checks.give(forge, argument);
-        }
-        return forge;
-    }
-
     private static void dueJoin(boolean blanks, String want, Object... arguments) {
-        TextForge forge = with(arguments);
+        TextForge forge = Checks.with(arguments);
         String what = "join(" + blanks + ") to " + want;
         Checks.due(what, forge.join(blanks), Checks.bytes(want).length);
         Checks.dueResult(what, forge, want);
@@ -39,13 +35,13 @@ final class JoinAndQuoteTest {
     }
 
     private static void joinCuts() {
-        TextForge forge = with("a".repeat(4000), "b".repeat(200), 7);
+        TextForge forge = Checks.with("a".repeat(4000), "b".repeat(200), 7);
         Checks.due("join cut", forge.join(true), 4096);
         Checks.dueResult("join cut", forge, "a".repeat(4000) + " " + "b".repeat(95));
-        forge = with("a".repeat(4095), 5, 6);
+        forge = Checks.with("a".repeat(4095), 5, 6);
         Checks.due("join cut at a blank", forge.join(true), 4096);
         Checks.dueResult("join cut at a blank", forge, "a".repeat(4095) + " ");
-        forge = with("a".repeat(4094), 55);
+        forge = Checks.with("a".repeat(4094), 55);
         Checks.due("join not cut", forge.join(false), 4096);
         Checks.dueResult("join not cut", forge, "a".repeat(4094) + "55");
     }
@@ -84,15 +80,9 @@ final class JoinAndQuoteTest {
     }
 
     private static void quoteCuts() {
-        TextForge forge = Checks.fed(new TextForge(), "a".repeat(4094));
-        Checks.due("quote of 4094", forge.quote(), 4096);
-        Checks.dueResult("quote of 4094", forge, "\"" + "a".repeat(4094) + "\"");
-        Checks.fed(forge, "a".repeat(4095));
-        Checks.due("quote of 4095", forge.quote(), 4096);
-        Checks.dueResult("quote of 4095", forge, "\"" + "a".repeat(4095));
-        Checks.fed(forge, new byte[4096]);
-        Checks.due("quote of zeros", forge.quote(), 4096);
-        Checks.dueResult("quote of zeros", forge, "\"" + "\\x00".repeat(1023) + "\\x0");
+        dueQuote(Checks.times('a', 4094), "\"" + "a".repeat(4094) + "\"");
+        dueQuote(Checks.times('a', 4095), "\"" + "a".repeat(4095));
+        dueQuote(new byte[4096], "\"" + "\\x00".repeat(1023) + "\\x0");
     }
 
     private static void bytesOfTheResult() {
@@ -115,7 +105,7 @@ final class JoinAndQuoteTest {
     }
 
     private static void resultStays() {
-        TextForge forge = with("abc");
+        TextForge forge = Checks.with("abc");
         forge.join(false);
         Checks.fed(forge, "12");
         forge.text();

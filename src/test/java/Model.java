@@ -278,10 +278,6 @@ final class Model {
         return result.charAt(i);
     }
 
-    byte[] result() {
-        return result.getBytes(StandardCharsets.ISO_8859_1);
-    }
-
     private int keep(String made) {
         result = made.substring(0, Math.min(4096, made.length()));
         return result.length();

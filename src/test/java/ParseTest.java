@@ -3,6 +3,7 @@ import java.math.BigInteger;
 /** Promises 12 and 13: parse, parsed. */
 final class ParseTest {
     public static void main(String[] args) {
+        Checks.promise(12, "parse");
         numbers();
         edgesInEveryBase();
         digitsOfEveryBase();
@@ -12,7 +13,7 @@ final class ParseTest {
         Checks.finish("ParseTest");
     }
 
-    private static void due(byte[] text, int base, boolean isNumber, long want) {
+    static void due(byte[] text, int base, boolean isNumber, long want) {
         TextForge forge = new TextForge();
         Checks.fed(forge, "1").parse(10);
         Checks.fed(forge, text);

@@ -1,10 +1,11 @@
-import java.util.Arrays;
 import java.util.Random;
 
-/** All promises: runs of 512 random calls, the class against the model. The seeds are fixed. */
+/** All promises: runs of up to 512 random calls, the class against the model. The seeds are fixed. */
 final class RandomRunsTest {
-    private static final int RUNS = 1500;
-    private static final int CALLS = 512;
+    private static final int RUNS = 6000;
+    // One result more than this may be looked at, which stays within the 512 calls of an object.
+    private static final int CALLS = 460;
+    private static final int PLACES = 40;
     private static final String FORMAT_BYTES = "%%%%%%%-+00123459dxXbocsqtvz!a|";
     private static final String NUMBER_BYTES = "+-0011123456789abcxyzAFZ";
     private static final int[] UTF8_BYTES = {
@@ -19,6 +20,7 @@ final class RandomRunsTest {
     private final Model model = new Model();
     private final String name;
     private final int feeds;
+    private int calls = 0;
 
     private RandomRunsTest(int seed) {
         random = new Random(seed);
@@ -34,8 +36,8 @@ final class RandomRunsTest {
     }
 
     private void run() {
-        for (int call = 0; call < CALLS; call++) {
-            String what = name + call;
+        while (calls < CALLS) {
+            String what = name + calls;
             int kind = random.nextInt(26 + feeds);
             if (kind >= 26) {
                 int[] more = twenty();
@@ -47,7 +49,6 @@ final class RandomRunsTest {
                 use(what, kind);
             }
         }
-        whole(name + "end");
     }
 
     private int[] twenty() {
@@ -88,6 +89,7 @@ final class RandomRunsTest {
             }
             case 9 -> {
                 if (random.nextInt(8) == 0) {
+                    calls++;
                     forge.clear();
                     model.clear();
                 }
@@ -104,15 +106,15 @@ final class RandomRunsTest {
         switch (kind) {
             case 13, 14 -> {
                 same(what + " format", forge::format, model::format);
-                whole(what + " format");
+                result(what + " format");
             }
             case 15 -> {
                 same(what + " join", () -> forge.join(truth), () -> model.join(truth));
-                whole(what + " join");
+                result(what + " join");
             }
             case 16 -> {
                 same(what + " quote", forge::quote, model::quote);
-                whole(what + " quote");
+                result(what + " quote");
             }
             case 17, 18 -> {
                 int base = random.nextInt(40) - 1;
@@ -122,7 +124,7 @@ final class RandomRunsTest {
             case 20 -> {
                 int code = (int) someNumber();
                 same(what + " encode " + code, () -> forge.encode(code), () -> model.encode(code));
-                whole(what + " encode");
+                result(what + " encode");
             }
             case 21 -> same(what + " decode", forge::decode, model::decode);
             case 22, 23 -> {
@@ -138,11 +140,19 @@ final class RandomRunsTest {
         }
     }
 
-    private void whole(String what) {
-        Checks.due(what + ", the result", Arrays.equals(Checks.resultOf(forge), model.result()), true);
+    /** Compares the result at some places, and behind its end. */
+    private void result(String what) {
+        same(what + ", size", forge::size, model::size);
+        int size = model.size();
+        for (int n = 0; n < Math.min(size, PLACES); n++) {
+            int i = size <= PLACES ? n : random.nextInt(size);
+            same(what + ", byteOf " + i, () -> forge.byteOf(i), () -> model.byteOf(i));
+        }
+        same(what + ", byteOf " + size, () -> forge.byteOf(size), () -> model.byteOf(size));
     }
 
-    private static void same(String what, Checks.Call got, Checks.Call want) {
+    private void same(String what, Checks.Call got, Checks.Call want) {
+        calls++;
         Checks.due(what, Checks.outcome(got), Checks.outcome(want));
     }
 }
