@@ -22,7 +22,18 @@ final class Checks {
     private static int wrong = 0;
     private static String promise = "";
 
+    static {
+        Thread.setDefaultUncaughtExceptionHandler((thread, thrown) -> tellThrown(thrown));
+    }
+
     private Checks() {
+    }
+
+    /** What a test did not look for ends it, but not without the promise that it was about. */
+    private static void tellThrown(Throwable thrown) {
+        System.out.println(promise + "threw " + thrown);
+        thrown.printStackTrace(System.out);
+        System.exit(1);
     }
 
     /** Says to which promise the checks from here on belong, and which of its cases they look at. */

@@ -155,6 +155,19 @@ final class CodeEdgesTest {
             CodesTest.dueNone(inBytes(none, 4));
         }
         CodesTest.dueNone(0xed, 0xa0, 0xbd, 0xed, 0xb8, 0x80);
+        for (int first = 0xf5; first < 256; first++) {
+            for (int second : new int[] {0x80, 0x8f, 0x90, 0xbf}) {
+                CodesTest.dueNone(first, second, 0x80, 0x80);
+            }
+        }
+        for (int beside : new int[] {0x7f, 0xc0}) {
+            CodesTest.dueNone(0xc3, beside);
+            CodesTest.dueNone(0xe2, beside, 0x82);
+            CodesTest.dueNone(0xe2, 0x82, beside);
+            CodesTest.dueNone(0xf0, beside, 0x98, 0x80);
+            CodesTest.dueNone(0xf0, 0x9f, beside, 0x80);
+            CodesTest.dueNone(0xf0, 0x9f, 0x98, beside);
+        }
         for (int value = 128; value < 256; value++) {
             CodesTest.dueNone(value);
             CodesTest.dueNone(value, 'a');

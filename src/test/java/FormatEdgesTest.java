@@ -14,6 +14,7 @@ final class FormatEdgesTest {
         plusAtZero();
         codesOfNumbers();
         quotedNumbers();
+        textsInBase16();
         emptyFormat();
         formatThatEnds();
         flags();
@@ -84,6 +85,7 @@ final class FormatEdgesTest {
     private static void codesOfNumbers() {
         Checks.promise(9, "c of a number: the code as UTF-8, at the edges of its lengths");
         Checks.dueFormat("%c", Checks.bytes(0), 0);
+        Checks.dueFormat("%c", Checks.bytes(0), UNSIGNED_ZERO);
         Checks.dueFormat("%c", Checks.bytes(0x7f), 127);
         Checks.dueFormat("%c", Checks.bytes(0xc2, 0x80), 128);
         Checks.dueFormat("%c", Checks.bytes(0xdf, 0xbf), 2047);
@@ -132,6 +134,17 @@ final class FormatEdgesTest {
         for (int code : new int[] {128, 159, 160, 2047, 2048, 55295, 57344, 65535, 65536, 1114111}) {
             Checks.dueFormat("%q", "'" + Character.toString(code) + "'", code);
         }
+    }
+
+    private static void textsInBase16() {
+        Checks.promise(9, "x X of a text: two digits of base 16 for each byte");
+        for (int value = 0; value < 256; value++) {
+            String two = String.format("%02x", value);
+            Checks.dueFormat("%x", two, (Object) Checks.bytes(value));
+            Checks.dueFormat("%X", two.toUpperCase(), (Object) Checks.bytes(value));
+            Checks.dueFormat("%x", "61" + two + two, (Object) Checks.bytes('a', value, value));
+        }
+        Checks.dueFormat("%x|%X|", "||", "", "");
     }
 
     private static void emptyFormat() {
