@@ -41,6 +41,11 @@ final class Checks {
         promise = "promise " + number + " (" + words + "): ";
     }
 
+    /** Says what the checks from here on are about, where it is no promise. */
+    static void about(String words) {
+        promise = words + ": ";
+    }
+
     static void due(String what, Object got, Object want) {
         if (!want.equals(got)) {
             wrong++;

@@ -9,6 +9,7 @@ final class FeedTest {
         Checks.promise(3, "end");
         endCuts();
         endRefuses();
+        Checks.promise(3, "the text that is fed is used up by the call that reads it");
         textIsUsedUp();
         Checks.finish("FeedTest");
     }
